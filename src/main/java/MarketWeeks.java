@@ -243,7 +243,6 @@ public final class MarketWeeks {
     }
 
     private void checkMarkets(int set) {
-        // the shift without sign, so that bit 31 is seen too
         if (set >>> count != 0) {
             throw new IndexOutOfBoundsException("a bit stands for no market");
         }
