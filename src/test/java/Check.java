@@ -5,6 +5,8 @@ import java.util.function.LongSupplier;
 final class Check {
     private static int wrong = 0;
     private static int looked = 0;
+    private static String about = "";
+    private static int lookedAhead = 0;
 
     private Check() {
     }
@@ -50,14 +52,36 @@ final class Check {
         }
     }
 
+    /** An outcome as a text is the due one. */
+    static void same(String what, String outcome, String due) {
+        looked++;
+        if (!outcome.equals(due)) {
+            fault(what + ": " + outcome + ", due is: " + due);
+        }
+    }
+
+    /** The answers that come now are about this, and there must be one at least. */
+    static void about(String words) {
+        endOfAbout();
+        about = words;
+        lookedAhead = looked;
+    }
+
+    private static void endOfAbout() {
+        if (!about.isEmpty() && looked == lookedAhead) {
+            fault("no answer is looked at");
+        }
+    }
+
     static void fault(String text) {
         wrong++;
         if (wrong <= 50) {
-            System.out.println(text);
+            System.out.println((about.isEmpty() ? "" : "[" + about + "] ") + text);
         }
     }
 
     static void end() {
+        endOfAbout();
         System.out.println(looked + " answers looked at, " + wrong + " not as due");
         if (wrong != 0) {
             System.exit(1);

@@ -27,7 +27,6 @@ public final class ModelTest {
     private int b;
     private int c;
     private int longest;
-    private String call = "";
 
     public static void main(String[] args) {
         for (int run = 0; run < RUNS; run++) {
@@ -201,53 +200,8 @@ public final class ModelTest {
     // ---- the calls
 
     private void expect(String what, String exception, long due) {
-        call = what;
-        if (exception == null) {
-            Check.gives(what, () -> answer(), due);
-        } else if (exception.equals(ARGUMENT)) {
-            Check.illegalArgument(what, () -> answer());
-        } else if (exception.equals(BOUNDS)) {
-            Check.outOfBounds(what, () -> answer());
-        } else {
-            Check.illegalState(what, () -> answer());
-        }
-    }
-
-    /** Makes the call that is written. */
-    private long answer() {
-        int open = call.indexOf('(');
-        String inside = call.substring(open + 1, call.length() - 1);
-        String[] parts = inside.isEmpty() ? new String[0] : inside.split(", ");
-        int[] n = new int[4];
-        for (int i = 0; i < parts.length; i++) {
-            n[i] = Integer.parseInt(parts[i]);
-        }
-        switch (call.substring(0, open)) {
-            case "addMarket": return x.addMarket(n[0], n[1]);
-            case "shift": return x.shift(n[0], n[1]);
-            case "setMoon": x.setMoon(n[0], n[1], n[2]); return 0;
-            case "setYear": x.setYear(n[0], n[1], n[2], n[3]); return 0;
-            case "markets": return x.markets();
-            case "isHeld": return x.isHeld(n[0], n[1]) ? 1 : 0;
-            case "next": return x.next(n[0], n[1]);
-            case "nearest": return x.nearest(n[0], n[1]);
-            case "times": return x.times(n[0], n[1], n[2]);
-            case "heldOn": return x.heldOn(n[0]);
-            case "doMeet": return x.doMeet(n[0]) ? 1 : 0;
-            case "period": return x.period(n[0]);
-            case "meeting": return x.meeting(n[0], n[1]);
-            case "lunarMeeting": return x.lunarMeeting(n[0], n[1], n[2], n[3]);
-            case "best": return x.best(n[0], n[1], n[2]);
-            case "month": return x.month(n[0]);
-            case "lunarDay": return x.lunarDay(n[0]);
-            case "monthBegin": return x.monthBegin(n[0]);
-            case "year": return x.year(n[0]);
-            case "placeInYear": return x.placeInYear(n[0]);
-            case "isLeap": return x.isLeap(n[0]) ? 1 : 0;
-            case "dayOf": return x.dayOf(n[0], n[1]);
-            case "timesInYear": return x.timesInYear(n[0], n[1]);
-            default: throw new IllegalStateException("no such call: " + call);
-        }
+        String outcome = new Call(what).outcome(x);
+        Check.same(what, outcome, exception == null ? Long.toString(due) : "throws." + exception);
     }
 
     private static String written(String name, int... arguments) {
