@@ -7,6 +7,7 @@ final class MarketSentences {
     private static final Scene SIX = Scenes.SIX;
     private static final Scene TOLD = Scenes.TOLD;
     private static final Scene FULL = Scenes.FULL;
+    private static final Scene FULL_TOLD = Scenes.FULL_TOLD;
 
     private MarketSentences() {
     }
@@ -59,7 +60,7 @@ final class MarketSentences {
 
         Sentences.hold(DAY_OUT);
         Scenes.refusesDays(TOLD, "isHeld(0, %d)");
-        Scenes.refusesDays(FULL, "isHeld(15, %d)");
+        Scenes.refusesDays(FULL_TOLD, "isHeld(15, %d)");
     }
 
     private static void next() {
@@ -104,7 +105,7 @@ final class MarketSentences {
 
         Sentences.hold(DAY_OUT);
         Scenes.refusesDays(TOLD, "next(0, %d)");
-        Scenes.refusesDays(FULL, "next(15, %d)");
+        Scenes.refusesDays(FULL_TOLD, "next(15, %d)");
     }
 
     private static void nearest() {
@@ -161,7 +162,7 @@ final class MarketSentences {
 
         Sentences.hold(DAY_OUT);
         Scenes.refusesDays(TOLD, "nearest(0, %d)");
-        Scenes.refusesDays(FULL, "nearest(15, %d)");
+        Scenes.refusesDays(FULL_TOLD, "nearest(15, %d)");
     }
 
     private static void times() {
@@ -206,7 +207,7 @@ final class MarketSentences {
         SIX.gives("times(1, 0, 1)", 1);
         TOLD.refusesArgument("times(0, 3, 2)", "times(0, 0, -1)", "times(0, -4, -5)", "times(0, 1000000, 999999)",
                 "times(0, -999999, -1000000)", "times(0, 1000000, -1000000)");
-        FULL.refusesArgument("times(15, 1, 0)");
+        FULL_TOLD.refusesArgument("times(15, 1, 0)");
 
         Sentences.hold(NO_MARKET);
         Scenes.refusesMarkets("times(%d, 0, 0)");
@@ -218,7 +219,7 @@ final class MarketSentences {
                 "times(0, -1000000, 1000001)", "times(0, -2147483648, 0)", "times(0, 0, 2147483647)",
                 "times(0, -2147483648, 2147483647)", "times(0, 2147483647, -2147483648)",
                 "times(0, 1000001, 1000000)", "times(0, -1000000, -1000001)");
-        FULL.refusesArgument("times(15, -1000001, 0)", "times(15, 0, 1000001)");
+        FULL_TOLD.refusesArgument("times(15, -1000001, 0)", "times(15, 0, 1000001)");
         TOLD.takes("times(0, -1000000, 0)", "times(0, 0, 1000000)", "times(0, -1000000, 1000000)");
     }
 
@@ -253,6 +254,6 @@ final class MarketSentences {
         Sentences.hold(DAY_OUT);
         Scenes.refusesDays(NEW, "heldOn(%d)");
         Scenes.refusesDays(TOLD, "heldOn(%d)");
-        Scenes.refusesDays(FULL, "heldOn(%d)");
+        Scenes.refusesDays(FULL_TOLD, "heldOn(%d)");
     }
 }

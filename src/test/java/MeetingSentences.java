@@ -10,6 +10,7 @@ final class MeetingSentences {
     private static final Scene SIX = Scenes.SIX;
     private static final Scene TOLD = Scenes.TOLD;
     private static final Scene FULL = Scenes.FULL;
+    private static final Scene FULL_TOLD = Scenes.FULL_TOLD;
 
     /** Five markets that meet on day -1, with the longest period that five can have: 568582410. */
     private static final Scene RARE = NEW.after("addMarket(59, 58)", "addMarket(58, 57)", "addMarket(57, 56)",
@@ -67,7 +68,7 @@ final class MeetingSentences {
         FULL.tells("doMeet(31)", true);
         FULL.tells("doMeet(63488)", true);
         FULL.tells("doMeet(32768)", true);
-        FULL.refusesArgument("doMeet(0)", "doMeet(63)", "doMeet(64512)");
+        FULL_TOLD.refusesArgument("doMeet(0)", "doMeet(63)", "doMeet(64512)");
 
         Sentences.hold(SET_OUT);
         Scenes.refusesSizes("doMeet(%d)");
@@ -106,7 +107,7 @@ final class MeetingSentences {
         FULL.gives("period(1)", 1);
         FULL.gives("period(32768)", 16);
         FULL.gives("period(31)", 60);
-        FULL.refusesArgument("period(0)", "period(63)", "period(64512)");
+        FULL_TOLD.refusesArgument("period(0)", "period(63)", "period(64512)");
 
         Sentences.hold(SET_OUT);
         Scenes.refusesSizes("period(%d)");
@@ -117,6 +118,7 @@ final class MeetingSentences {
         Sentences.hold(NEVER);
         SIX.refusesState("period(24)", "period(31)", "period(12)", "period(34)");
         TOLD.refusesState("period(24)", "period(31)");
+        FULL_TOLD.refusesState("period(10)");
         SIX.after("shift(3, 1)").gives("period(24)", 12);
         SIX.after("shift(3, 1)", "shift(3, -1)").refusesState("period(24)");
         NEW.after("addMarket(60, 59)", "addMarket(60, 58)").refusesState("period(3)");
@@ -165,13 +167,13 @@ final class MeetingSentences {
         FULL.gives("meeting(1, 4)", 4);
         FULL.gives("meeting(32768, 0)", 15);
         FULL.gives("meeting(31, 0)", 59);
-        FULL.refusesArgument("meeting(0, 0)", "meeting(63, 0)", "meeting(64512, 0)");
+        FULL_TOLD.refusesArgument("meeting(0, 0)", "meeting(63, 0)", "meeting(64512, 0)");
 
         Sentences.hold("Throws `IllegalArgumentException` if day is out of range, or set has no bit, or more"
                 + " than 5");
         Scenes.refusesSizes("meeting(%d, 0)");
         Scenes.refusesDays(TOLD, "meeting(3, %d)");
-        Scenes.refusesDays(FULL, "meeting(63488, %d)");
+        Scenes.refusesDays(FULL_TOLD, "meeting(63488, %d)");
 
         Sentences.hold(NO_MARKET);
         Scenes.refusesBits("meeting(%d, 0)");
@@ -179,6 +181,7 @@ final class MeetingSentences {
         Sentences.hold(NEVER);
         SIX.refusesState("meeting(24, 0)", "meeting(31, 0)", "meeting(12, -1000000)", "meeting(34, 1000000)");
         TOLD.refusesState("meeting(24, 0)");
+        FULL_TOLD.refusesState("meeting(10, 0)");
         SIX.after("shift(3, 1)").gives("meeting(24, 0)", 7);
         NEW.after("addMarket(60, 59)", "addMarket(60, 58)").refusesState("meeting(3, 58)");
     }
@@ -212,7 +215,7 @@ final class MeetingSentences {
         FULL.gives("lunarMeeting(32768, 0, 15, 1)", 15);
         FULL.gives("lunarMeeting(31, 0, 29, 1)", 59);
         FULL.gives("lunarMeeting(63488, -1, 28, 1)", 0);
-        FULL.refusesArgument("lunarMeeting(0, 0, 0, 1)", "lunarMeeting(63, 0, 0, 1)",
+        FULL_TOLD.refusesArgument("lunarMeeting(0, 0, 0, 1)", "lunarMeeting(63, 0, 0, 1)",
                 "lunarMeeting(64512, 0, 0, 1)");
 
         Sentences.hold("- `lunarDay`: 0 to 99");
@@ -266,11 +269,11 @@ final class MeetingSentences {
                 + " has no bit, or more than 5");
         Scenes.refusesSizes("lunarMeeting(%d, 0, 0, 1)");
         Scenes.refusesDays(TOLD, "lunarMeeting(3, %d, 0, 1)");
-        Scenes.refusesDays(FULL, "lunarMeeting(63488, %d, 0, 1000)");
+        Scenes.refusesDays(FULL_TOLD, "lunarMeeting(63488, %d, 0, 1000)");
         Scenes.refusesOutside(TOLD, "lunarMeeting(3, 0, %d, 1)", 0, 99);
-        Scenes.refusesOutside(FULL, "lunarMeeting(1, 0, %d, 1000)", 0, 99);
+        Scenes.refusesOutside(FULL_TOLD, "lunarMeeting(1, 0, %d, 1000)", 0, 99);
         Scenes.refusesOutside(TOLD, "lunarMeeting(3, 0, 0, %d)", 1, 1000);
-        Scenes.refusesOutside(FULL, "lunarMeeting(1, 0, 0, %d)", 1, 1000);
+        Scenes.refusesOutside(FULL_TOLD, "lunarMeeting(1, 0, 0, %d)", 1, 1000);
 
         Sentences.hold(NO_MARKET);
         Scenes.refusesBits("lunarMeeting(%d, 0, 0, 1)");
@@ -279,6 +282,7 @@ final class MeetingSentences {
         SIX.refusesState("lunarMeeting(24, 0, 0, 1)", "lunarMeeting(31, 0, 0, 1000)",
                 "lunarMeeting(12, -1000000, 99, 1)", "lunarMeeting(34, 1000000, 5, 5)");
         TOLD.refusesState("lunarMeeting(24, 0, 0, 1)");
+        FULL_TOLD.refusesState("lunarMeeting(10, 0, 0, 1)");
         SIX.after("shift(3, 1)").gives("lunarMeeting(24, 0, 7, 1)", 7);
     }
 
@@ -348,7 +352,7 @@ final class MeetingSentences {
                 "best(3, -1000000, -997999)", "best(3, 0, 1000000)", "best(3, 1000000, -1000000)");
         // the last day on which all are held is found on the last of 2001 days
         FULL.gives("best(65535, -2001, -1)", -1);
-        FULL.refusesArgument("best(65535, -2002, -1)");
+        FULL_TOLD.refusesArgument("best(65535, -2002, -1)");
         // days are -1000000 to 1000000, from + 2000 or not
         TOLD.refusesArgument("best(3, 1000000, 1000001)", "best(3, 999000, 1000001)");
 
@@ -360,12 +364,12 @@ final class MeetingSentences {
                 "best(3, 2147483647, -2147481649)", "best(3, 2147481648, -2147483648)",
                 "best(0, 1, 0)", "best(0, 0, 2001)", "best(0, 1000001, 1000001)");
         NEW.refusesArgument("best(0, 1, 0)", "best(0, 0, 2001)", "best(0, -1000001, -1000000)");
-        FULL.refusesArgument("best(65535, 1, 0)", "best(65535, 0, 2001)");
+        FULL_TOLD.refusesArgument("best(65535, 1, 0)", "best(65535, 0, 2001)");
 
         Sentences.hold(NO_MARKET);
         Scenes.refusesBits("best(%d, 0, 9)");
         SIX.refusesBounds("best(127, 0, 0)", "best(-1, 0, 0)", "best(-64, 0, 0)", "best(64, 0, 2000)");
-        FULL.refusesBounds("best(131071, 0, 0)", "best(-1, 0, 0)", "best(-65536, 0, 0)");
+        FULL_TOLD.refusesBounds("best(131071, 0, 0)", "best(-1, 0, 0)", "best(-65536, 0, 0)");
         NEW.refusesBounds("best(1, 0, 0)", "best(-1, 0, 0)");
     }
 }

@@ -457,6 +457,6 @@ final class MoonYearSentences {
         Sentences.hold(YEAR_OUT);
         Scenes.refusesYears(SIX, "timesInYear(0, %d)");
         Scenes.refusesYears(TOLD, "timesInYear(5, %d)");
-        Scenes.refusesYears(FULL, "timesInYear(15, %d)");
+        Scenes.refusesYears(Scenes.FULL_TOLD, "timesInYear(15, %d)");
     }
 }

@@ -4,6 +4,7 @@ final class RuleSentences {
     private static final Scene SIX = Scenes.SIX;
     private static final Scene TOLD = Scenes.TOLD;
     private static final Scene FULL = Scenes.FULL;
+    private static final Scene FULL_TOLD = Scenes.FULL_TOLD;
 
     private RuleSentences() {
     }
@@ -50,10 +51,12 @@ final class RuleSentences {
         NEW.tells("isLeap(4)", true);
         NEW.tells("isLeap(32)", true);
         NEW.tells("isLeap(33)", false);
-        // an object that comes behind another one knows nothing of it
-        TOLD.made();
-        Check.same("a new object behind another one", Answers.difference(Answers.of(NEW.made()),
-                Answers.of(new MarketWeeks())), "");
+        // objects know nothing of one another
+        MarketWeeks ahead = TOLD.made();
+        MarketWeeks full = FULL_TOLD.made();
+        NEW.isAsBefore("a new object behind others", new MarketWeeks());
+        TOLD.isAsBefore("with others made behind it", ahead);
+        FULL_TOLD.isAsBefore("with another asked behind it", full);
     }
 
     private static void addMarket() {
@@ -110,11 +113,12 @@ final class RuleSentences {
         Sentences.hold("Throws `IllegalArgumentException` if an argument is out of range");
         NEW.refusesArgument("addMarket(0, 0)", "addMarket(5, 5)", "addMarket(61, 61)",
                 "addMarket(-2147483648, 2147483647)", "addMarket(2147483647, 2147483647)");
-        FULL.refusesArgument("addMarket(0, 0)", "addMarket(61, 0)", "addMarket(7, 7)", "addMarket(7, -1)");
+        FULL_TOLD.refusesArgument("addMarket(0, 0)", "addMarket(61, 0)", "addMarket(7, 7)", "addMarket(7, -1)");
 
         Sentences.hold("Throws `IllegalStateException` if there are 16");
         fifteen.gives("addMarket(60, 59)", 15);
         FULL.refusesState("addMarket(1, 0)", "addMarket(7, 3)", "addMarket(60, 59)");
+        FULL_TOLD.refusesState("addMarket(1, 0)", "addMarket(7, 3)", "addMarket(60, 59)");
         fifteen.after("addMarket(60, 59)").refusesState("addMarket(60, 59)");
         fifteen.after("addMarket(60, 59)").gives("next(15, 60)", 119);
     }
@@ -182,7 +186,7 @@ final class RuleSentences {
 
         Sentences.hold("Throws `IllegalArgumentException` if days is out of range");
         Scenes.refusesOutside(TOLD, "shift(0, %d)", -60, 60);
-        Scenes.refusesOutside(FULL, "shift(15, %d)", -60, 60);
+        Scenes.refusesOutside(FULL_TOLD, "shift(15, %d)", -60, 60);
     }
 
     private static void setMoon() {

@@ -6,11 +6,23 @@ final class Scene {
     static final Scene NEW = new Scene();
 
     private final Call[] calls;
+    private final int markets;
     private final String[] answers;
+    private final String[] answersInReverse;
 
     private Scene(Call... calls) {
         this.calls = calls;
-        answers = Answers.of(made());
+        markets = marketsTold();
+        answers = Answers.of(made(), markets);
+        answersInReverse = Answers.ofReverse(made(), markets);
+    }
+
+    private int marketsTold() {
+        int told = 0;
+        for (Call call : calls) {
+            told += call.text.startsWith("addMarket(") ? 1 : 0;
+        }
+        return told;
     }
 
     /** This scene and then these calls, none of which may throw. */
@@ -31,10 +43,9 @@ final class Scene {
     /** The call answers this; and if it only asks, everything answers afterwards as before. */
     void gives(String text, long due) {
         Call call = new Call(text);
-        MarketWeeks x = made();
-        Check.same(this + text, call.outcome(x), Long.toString(due));
+        Check.same(this + text, call.outcome(made()), Long.toString(due));
         if (!call.changes()) {
-            keeps(text, x);
+            keeps(call);
         }
     }
 
@@ -42,11 +53,15 @@ final class Scene {
         gives(text, due ? 1 : 0);
     }
 
-    /** The call is taken: it throws nothing. */
+    /** Each call is taken, whatever it answers; and if it only asks, all is afterwards as before. */
     void takes(String... texts) {
         for (String text : texts) {
-            String outcome = new Call(text).outcome(made());
+            Call call = new Call(text);
+            String outcome = call.outcome(made());
             Check.same(this + text, outcome.startsWith("throws.") ? outcome : "taken", "taken");
+            if (!call.changes()) {
+                keeps(call);
+            }
         }
     }
 
@@ -65,14 +80,25 @@ final class Scene {
     /** Each call throws this, and everything else answers afterwards as it did before. */
     private void refuses(String due, String... texts) {
         for (String text : texts) {
-            MarketWeeks x = made();
-            Check.same(this + text, new Call(text).outcome(x), due);
-            keeps(text, x);
+            Call call = new Call(text);
+            Check.same(this + text, call.outcome(made()), due);
+            keeps(call);
         }
     }
 
-    private void keeps(String text, MarketWeeks x) {
-        Check.same(this + text + ", afterwards", Answers.difference(answers, Answers.of(x)), "");
+    private void keeps(Call call) {
+        MarketWeeks x = made();
+        call.outcome(x);
+        isAsBefore(call.text, x);
+        MarketWeeks y = made();
+        call.outcome(y);
+        String[] after = Answers.ofReverse(y, markets);
+        Check.same(this + call.text + ", then", Answers.difference(answersInReverse, after), "");
+    }
+
+    /** This object, of this scene, answers everything as the scene does. */
+    void isAsBefore(String what, MarketWeeks x) {
+        Check.same(this + what + ", then", Answers.difference(answers, Answers.of(x, markets)), "");
     }
 
     @Override

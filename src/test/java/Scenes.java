@@ -14,6 +14,9 @@ final class Scenes {
     /** As many markets as can be: the market m has m + 1 days, and all are held on day -1. */
     static final Scene FULL = full();
 
+    /** As many, and nothing as it was at first: the markets 1 and 3 never meet any more. */
+    static final Scene FULL_TOLD = FULL.after("shift(3, 1)", "setMoon(59, 2, 3)", "setYear(360, 1, 2, 5)");
+
     private Scenes() {
     }
 
@@ -30,7 +33,7 @@ final class Scenes {
         Scene.NEW.refusesBounds(String.format(form, 0), String.format(form, -1));
         TOLD.refusesBounds(String.format(form, 6), String.format(form, -1), String.format(form, 15),
                 String.format(form, Integer.MIN_VALUE), String.format(form, Integer.MAX_VALUE));
-        FULL.refusesBounds(String.format(form, 16), String.format(form, -1));
+        FULL_TOLD.refusesBounds(String.format(form, 16), String.format(form, -1));
         TOLD.takes(String.format(form, 0), String.format(form, 5));
         FULL.takes(String.format(form, 0), String.format(form, 15));
     }
@@ -55,7 +58,7 @@ final class Scenes {
         Scene.NEW.refusesArgument(String.format(form, 0), String.format(form, 63),
                 String.format(form, -1), String.format(form, Integer.MAX_VALUE));
         TOLD.refusesArgument(String.format(form, 0), String.format(form, 63), String.format(form, -1));
-        FULL.refusesArgument(String.format(form, 0), String.format(form, 0xfc00),
+        FULL_TOLD.refusesArgument(String.format(form, 0), String.format(form, 0xfc00),
                 String.format(form, 0xffff), String.format(form, 63));
         FULL.takes(String.format(form, 1), String.format(form, 0x8000), String.format(form, 31),
                 String.format(form, 0xf800));
@@ -66,7 +69,7 @@ final class Scenes {
         Scene.NEW.refusesBounds(String.format(form, 1), String.format(form, 31));
         TOLD.refusesBounds(String.format(form, 64), String.format(form, 65), String.format(form, 3 | 64),
                 String.format(form, 0x8000), String.format(form, Integer.MIN_VALUE));
-        FULL.refusesBounds(String.format(form, 0x10000), String.format(form, 0x10001),
+        FULL_TOLD.refusesBounds(String.format(form, 0x10000), String.format(form, 0x10001),
                 String.format(form, 0x40000000), String.format(form, Integer.MIN_VALUE),
                 String.format(form, Integer.MIN_VALUE | 1));
         TOLD.takes(String.format(form, 1), String.format(form, 32));
