@@ -1,7 +1,3 @@
-import java.io.IOException;
-import java.nio.charset.StandardCharsets;
-import java.nio.file.Files;
-import java.nio.file.Path;
 import java.util.LinkedHashSet;
 import java.util.Set;
 
@@ -10,8 +6,6 @@ import java.util.Set;
  * without tests.
  */
 final class Sentences {
-    private static final Path DOCUMENT = Path.of("../shared/DOC.md");
-
     private static final Set<String> held = new LinkedHashSet<>();
     private static String heading = "";
 
@@ -35,10 +29,6 @@ final class Sentences {
     /** Looks whether the tests name the sentences that the document has, and no others. */
     static void end() {
         Check.about("the sentences of the document");
-        if (!Files.isReadable(DOCUMENT)) {
-            Check.fault("there is no " + DOCUMENT);
-            return;
-        }
         Set<String> written = written();
         for (String sentence : written) {
             Check.is("a test names: " + sentence, () -> held.contains(sentence), true);
@@ -74,12 +64,6 @@ final class Sentences {
 
     /** The document's lines, without those that name no more than the order of the calls. */
     private static String[] lines() {
-        try {
-            String text = Files.readString(DOCUMENT, StandardCharsets.UTF_8);
-            return text.replaceAll("(?m)^Ahead of the calls .*$", "").split("\\R");
-        } catch (IOException e) {
-            Check.fault("could not be read: " + DOCUMENT + ": " + e);
-            return new String[0];
-        }
+        return Texts.of(Texts.DOCUMENT).replaceAll("(?m)^Ahead of the calls .*$", "").split("\\R");
     }
 }
